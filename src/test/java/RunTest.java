@@ -18,6 +18,9 @@ public final class RunTest {
         fortyThreads();
         firstThreadsComeBeyondForty();
         forgetsTheRunBefore();
+        forgetsWhatWasLeft();
+        forgetsKeep();
+        tenActionsInOneTurn();
         Due.finish();
     }
 
@@ -246,5 +249,48 @@ public final class RunTest {
             Due.same("again: count(4)", () -> yard.count(4), 3);
             Due.same("again: count(5)", () -> yard.count(5), 1);
         }
+    }
+
+    /** The thread is left at work and marked: a new one has neither. */
+    private static void forgetsWhatWasLeft() {
+        TimeoutYard yard = new TimeoutYard();
+        Due.program(yard, 0, Due.WORK, 20);
+        Due.program(yard, 1, Due.LOOK, 0, Due.WORK, 20);
+        yard.workers(2);
+        yard.test(0, 2, 0, 0);
+        yard.test(1, 2, 0, 0);
+        for (int again = 0; again < 2; again++) {
+            Due.same("left: run()", () -> yard.run(), 5);
+            Due.looks("left", yard, 0, OVERRUN, -1, 0, 2, 0, 1, 1);
+            Due.looks("left", yard, 1, OVERRUN, -1, 0, 2, 1, 1, 1);
+            Due.notes("left", yard, 100);
+            Due.same("left: count(3)", () -> yard.count(3), 2);
+        }
+    }
+
+    /** The second thread keeps in the first run; in the second run it is another one, which does not. */
+    private static void forgetsKeep() {
+        TimeoutYard yard = new TimeoutYard();
+        Due.program(yard, 0, Due.WORK, 1);
+        Due.program(yard, 1, Due.KEEP, 0);
+        Due.program(yard, 2, Due.THROW, 5);
+        yard.test(0, 0, 0, 0);
+        yard.test(1, 0, 0, 0);
+        Due.same("keep: run()", () -> yard.run(), 3);
+        Due.looks("keep", yard, 0, PASSED, -1, 0, 1, 0, 0, 1);
+        Due.program(yard, 0, Due.STRAY, 2, Due.JOIN, 0);
+        Due.same("keep forgotten: run()", () -> yard.run(), 5);
+        Due.looks("keep forgotten", yard, 0, FAILED, 5, 0, 3, 0, 0, 2);
+    }
+
+    private static void tenActionsInOneTurn() {
+        TimeoutYard yard = new TimeoutYard();
+        for (int i = 0; i < 10; i++) {
+            yard.action(0, Due.NOTE, i);
+        }
+        yard.test(0, 0, 0, 0);
+        Due.same("ten actions: run()", () -> yard.run(), 1);
+        Due.looks("ten actions", yard, 0, PASSED, -1, 0, 0, 0, 0, 1);
+        Due.notes("ten actions", yard, 0, 1, 2, 3, 4, 5, 6, 7, 8, 9);
     }
 }
