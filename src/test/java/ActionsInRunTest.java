@@ -20,19 +20,12 @@ public final class ActionsInRunTest {
         markMarksItsOwn();
         verdictByTheFirstThatDied();
         verdictComesInTheTurn();
+        eachActionDoesItsOwnAlone();
         Due.finish();
     }
 
-    /** One test with program 0 and a timeout. */
-    private static TimeoutYard yardWith(int timeout, int... opsAndArguments) {
-        TimeoutYard yard = new TimeoutYard();
-        Due.program(yard, 0, opsAndArguments);
-        yard.test(0, timeout, 0, 0);
-        return yard;
-    }
-
     private static void workDoesNotCare() {
-        TimeoutYard yard = yardWith(1, Due.GUARD, 9, Due.WORK, 3, Due.LOOK, 0, Due.WORK, 1, Due.NOTE, 7);
+        TimeoutYard yard = Due.yardWith(1, Due.GUARD, 9, Due.WORK, 3, Due.LOOK, 0, Due.WORK, 1, Due.NOTE, 7);
         yard.test(1, 0, 0, 0);
         Due.program(yard, 1, Due.WORK, 2);
         Due.same("work: run()", () -> yard.run(), 7);
@@ -41,20 +34,20 @@ public final class ActionsInRunTest {
     }
 
     private static void sleepIsInterrupted() {
-        TimeoutYard yard = yardWith(2, Due.SLEEP, 20, Due.NOTE, 1);
+        TimeoutYard yard = Due.yardWith(2, Due.SLEEP, 20, Due.NOTE, 1);
         Due.same("sleep interrupted: run()", () -> yard.run(), 3);
         Due.looks("sleep interrupted", yard, 0, OVERRUN, -1, 0, 2, 0, 0, 1);
         Due.notes("sleep interrupted", yard);
         Due.warnings("sleep interrupted", yard, 100);
 
-        TimeoutYard calm = yardWith(6, Due.SLEEP, 5, Due.NOTE, 1);
+        TimeoutYard calm = Due.yardWith(6, Due.SLEEP, 5, Due.NOTE, 1);
         Due.same("sleep: run()", () -> calm.run(), 6);
         Due.looks("sleep", calm, 0, PASSED, -1, 0, 5, 0, 0, 1);
         Due.notes("sleep", calm, 1);
     }
 
     private static void sleepInterruptedInItsLastTurn() {
-        TimeoutYard yard = yardWith(5, Due.SLEEP, 5, Due.NOTE, 1);
+        TimeoutYard yard = Due.yardWith(5, Due.SLEEP, 5, Due.NOTE, 1);
         Due.same("sleep and timeout at once: run()", () -> yard.run(), 6);
         Due.looks("sleep and timeout at once", yard, 0, OVERRUN, -1, 0, 5, 0, 0, 1);
         Due.notes("sleep and timeout at once", yard);
@@ -63,14 +56,14 @@ public final class ActionsInRunTest {
 
     private static void markedAsAWaitBegins() {
         for (int wait : new int[] {Due.SLEEP, Due.BLOCK, Due.JOIN}) {
-            TimeoutYard yard = yardWith(1, Due.WORK, 2, Due.NOTE, 1, Due.GUARD, 1, wait, 9, Due.LOOK, 0, Due.SLEEP, 1,
+            TimeoutYard yard = Due.yardWith(1, Due.WORK, 2, Due.NOTE, 1, Due.GUARD, 1, wait, 9, Due.LOOK, 0, Due.SLEEP, 1,
                     Due.NOTE, 2);
             Due.same("marked as " + wait + " begins: run()", () -> yard.run(), 4);
             Due.looks("marked as " + wait + " begins", yard, 0, OVERRUN, -1, 0, 1, 0, 0, 1);
             Due.notes("marked as " + wait + " begins", yard, 1, 0, 2);
             Due.warnings("marked as " + wait + " begins", yard);
 
-            TimeoutYard bare = yardWith(1, Due.WORK, 2, wait, 9, Due.NOTE, 1);
+            TimeoutYard bare = Due.yardWith(1, Due.WORK, 2, wait, 9, Due.NOTE, 1);
             Due.same("marked and unguarded as " + wait + " begins: run()", () -> bare.run(), 3);
             Due.notes("marked and unguarded as " + wait + " begins", bare);
             Due.warnings("marked and unguarded as " + wait + " begins", bare, 100);
@@ -78,7 +71,7 @@ public final class ActionsInRunTest {
     }
 
     private static void blockGoesOnByInterruptAlone() {
-        TimeoutYard yard = yardWith(50, Due.GUARD, 1, Due.BLOCK, 0, Due.NOTE, 3);
+        TimeoutYard yard = Due.yardWith(50, Due.GUARD, 1, Due.BLOCK, 0, Due.NOTE, 3);
         Due.same("block: run()", () -> yard.run(), 51);
         Due.looks("block", yard, 0, OVERRUN, -1, 0, 50, 0, 0, 1);
         Due.notes("block", yard, 3);
@@ -86,7 +79,7 @@ public final class ActionsInRunTest {
 
     private static void throwIsNotCaught() {
         for (int number : new int[] {0, 1, 99}) {
-            TimeoutYard yard = yardWith(0, Due.GUARD, 9, Due.THROW, number, Due.NOTE, 1);
+            TimeoutYard yard = Due.yardWith(0, Due.GUARD, 9, Due.THROW, number, Due.NOTE, 1);
             Due.same("throw " + number + ": run()", () -> yard.run(), 1);
             Due.looks("throw " + number, yard, 0, FAILED, number, 0, 0, 0, 0, 1);
             Due.notes("throw " + number, yard);
@@ -106,7 +99,7 @@ public final class ActionsInRunTest {
     private static void guardAndBlock(int length, int place) {
         int[] actions = {Due.GUARD, length, Due.NOTE, 1, Due.NOTE, 2, Due.NOTE, 3, Due.NOTE, 4, Due.NOTE, 5};
         actions[2 * place] = Due.BLOCK;
-        TimeoutYard yard = yardWith(1, actions);
+        TimeoutYard yard = Due.yardWith(1, actions);
         yard.run();
         String name = "guard " + length + ", block at " + place;
         boolean isCaught = place <= length;
@@ -119,30 +112,30 @@ public final class ActionsInRunTest {
     }
 
     private static void guardsInOneAnother() {
-        TimeoutYard innermost = yardWith(1, Due.GUARD, 4, Due.GUARD, 1, Due.BLOCK, 0, Due.NOTE, 3, Due.NOTE, 4,
+        TimeoutYard innermost = Due.yardWith(1, Due.GUARD, 4, Due.GUARD, 1, Due.BLOCK, 0, Due.NOTE, 3, Due.NOTE, 4,
                 Due.NOTE, 5);
         innermost.run();
         Due.notes("the innermost catches", innermost, 3, 4, 5);
 
-        TimeoutYard outer = yardWith(1, Due.GUARD, 4, Due.GUARD, 1, Due.NOTE, 2, Due.BLOCK, 0, Due.NOTE, 4, Due.NOTE, 5);
+        TimeoutYard outer = Due.yardWith(1, Due.GUARD, 4, Due.GUARD, 1, Due.NOTE, 2, Due.BLOCK, 0, Due.NOTE, 4, Due.NOTE, 5);
         outer.run();
         Due.notes("behind the inner one the outer catches", outer, 2, 5);
 
-        TimeoutYard cut = yardWith(1, Due.GUARD, 3, Due.GUARD, 9, Due.BLOCK, 0, Due.NOTE, 3, Due.NOTE, 4, Due.NOTE, 5);
+        TimeoutYard cut = Due.yardWith(1, Due.GUARD, 3, Due.GUARD, 9, Due.BLOCK, 0, Due.NOTE, 3, Due.NOTE, 4, Due.NOTE, 5);
         cut.run();
         Due.notes("the inner one ends with the outer", cut, 4, 5);
 
-        TimeoutYard beyond = yardWith(1, Due.GUARD, 2, Due.GUARD, 9, Due.NOTE, 2, Due.BLOCK, 0, Due.NOTE, 4);
+        TimeoutYard beyond = Due.yardWith(1, Due.GUARD, 2, Due.GUARD, 9, Due.NOTE, 2, Due.BLOCK, 0, Due.NOTE, 4);
         beyond.run();
         Due.notes("beyond the outer none catches", beyond, 2);
         Due.warnings("beyond the outer none catches", beyond, 100);
 
-        TimeoutYard twice = yardWith(1, Due.GUARD, 5, Due.GUARD, 4, Due.GUARD, 9, Due.BLOCK, 0, Due.NOTE, 4, Due.NOTE, 5,
+        TimeoutYard twice = Due.yardWith(1, Due.GUARD, 5, Due.GUARD, 4, Due.GUARD, 9, Due.BLOCK, 0, Due.NOTE, 4, Due.NOTE, 5,
                 Due.NOTE, 6);
         twice.run();
         Due.notes("three in one another", twice, 6);
 
-        TimeoutYard empty = yardWith(1, Due.GUARD, 3, Due.GUARD, 0, Due.BLOCK, 0, Due.NOTE, 3, Due.NOTE, 4);
+        TimeoutYard empty = Due.yardWith(1, Due.GUARD, 3, Due.GUARD, 0, Due.BLOCK, 0, Due.NOTE, 3, Due.NOTE, 4);
         empty.run();
         Due.notes("an empty guard catches nothing", empty, 4);
 
@@ -205,18 +198,18 @@ public final class ActionsInRunTest {
     }
 
     private static void lookTakesTheMark() {
-        TimeoutYard yard = yardWith(1, Due.LOOK, 0, Due.WORK, 2, Due.LOOK, 0, Due.LOOK, 0, Due.SLEEP, 1, Due.NOTE, 9);
+        TimeoutYard yard = Due.yardWith(1, Due.LOOK, 0, Due.WORK, 2, Due.LOOK, 0, Due.LOOK, 0, Due.SLEEP, 1, Due.NOTE, 9);
         Due.same("look: run()", () -> yard.run(), 4);
         Due.notes("look", yard, 0, 1, 0, 9);
         Due.warnings("look", yard);
     }
 
     private static void keepIsSilent() {
-        TimeoutYard first = yardWith(0, Due.KEEP, 0, Due.THROW, 7);
+        TimeoutYard first = Due.yardWith(0, Due.KEEP, 0, Due.THROW, 7);
         first.run();
         Due.looks("keep of the first thread", first, 0, FAILED, 7, 0, 0, 0, 0, 1);
 
-        TimeoutYard overrun = yardWith(1, Due.KEEP, 0, Due.BLOCK, 0);
+        TimeoutYard overrun = Due.yardWith(1, Due.KEEP, 0, Due.BLOCK, 0);
         overrun.run();
         Due.looks("keep of an overrun", overrun, 0, OVERRUN, -1, 0, 1, 0, 0, 1);
         Due.warnings("keep of an overrun", overrun);
@@ -242,7 +235,7 @@ public final class ActionsInRunTest {
     }
 
     private static void endIsTheEnd() {
-        TimeoutYard yard = yardWith(0, Due.GUARD, 2, Due.NOTE, 1, Due.END, 0, Due.NOTE, 2, Due.THROW, 3);
+        TimeoutYard yard = Due.yardWith(0, Due.GUARD, 2, Due.NOTE, 1, Due.END, 0, Due.NOTE, 2, Due.THROW, 3);
         Due.same("end: run()", () -> yard.run(), 1);
         Due.looks("end", yard, 0, PASSED, -1, 0, 0, 0, 0, 1);
         Due.notes("end", yard, 1);
@@ -320,5 +313,25 @@ public final class ActionsInRunTest {
         Due.same("in one tick: run()", () -> yard.run(), 3);
         Due.looks("in one tick", yard, 0, PASSED, -1, 0, 2, 0, 0, 2);
         Due.warnings("in one tick", yard, 5);
+    }
+
+    /** What takes no time neither notes, nor keeps, nor marks, nor starts a thread, unless it is the action for it. */
+    private static void eachActionDoesItsOwnAlone() {
+        for (int op : new int[] {Due.GUARD, Due.STRAY, Due.NOTE, Due.LOOK, Due.KEEP, Due.MARK}) {
+            TimeoutYard yard = Due.yardWith(0, Due.STRAY, 1, Due.JOIN, 0);
+            Due.program(yard, 1, Due.STRAY, 2, op, 3, Due.WORK, 2, Due.THROW, 5);
+            Due.program(yard, 2, Due.WORK, 1, Due.LOOK, 0);
+            String name = "op " + op + " alone";
+            Due.same(name + ": run()", () -> yard.run(), 5);
+            boolean isKept = op == Due.KEEP;
+            Due.looks(name, yard, 0, isKept ? PASSED : FAILED, isKept ? -1 : 5, 0, 4, 0, 0, op == Due.STRAY ? 4 : 3);
+            int mark = op == Due.MARK ? 1 : 0;
+            if (op == Due.NOTE || op == Due.LOOK) {
+                Due.notes(name, yard, op == Due.NOTE ? 3 : 0, mark);
+            } else {
+                Due.notes(name, yard, mark);
+            }
+            Due.warnings(name, yard);
+        }
     }
 }

@@ -268,7 +268,8 @@ public final class ModelTest {
         Model model = new Model();
         // Some yards run short, others are full of waits.
         int waits = random.nextInt(3);
-        int runs = 1 + random.nextInt(3);
+        // Two runs with all that is asked about them stay within the 512 calls of an object.
+        int runs = 1 + random.nextInt(2);
         for (int r = 0; r < runs; r++) {
             int actions = 5 + random.nextInt(40);
             for (int i = 0; i < actions; i++) {

@@ -20,6 +20,7 @@ public final class RunTest {
         forgetsTheRunBefore();
         forgetsWhatWasLeft();
         forgetsKeep();
+        forgetsATestThatDoesNotBeginAgain();
         tenActionsInOneTurn();
         Due.finish();
     }
@@ -281,6 +282,24 @@ public final class RunTest {
         Due.program(yard, 0, Due.STRAY, 2, Due.JOIN, 0);
         Due.same("keep forgotten: run()", () -> yard.run(), 5);
         Due.looks("keep forgotten", yard, 0, FAILED, 5, 0, 3, 0, 0, 2);
+    }
+
+    /** With two workers the second test is abandoned; with one it has no turn at all. */
+    private static void forgetsATestThatDoesNotBeginAgain() {
+        TimeoutYard yard = Due.yardWith(0, Due.BLOCK, 0);
+        Due.program(yard, 1, Due.NOTE, 5, Due.STRAY, 2, Due.WORK, 5);
+        Due.program(yard, 2, Due.WORK, 4, Due.THROW, 6);
+        yard.test(1, 2, 0, 0);
+        yard.workers(2);
+        yard.run();
+        Due.looks("two workers", yard, 1, OVERRUN, -1, 0, 2, 1, 1, 2);
+        Due.counts("two workers", yard, 2, 1, 1, 1, 3, 2, 1);
+        yard.workers(1);
+        yard.run();
+        Due.looks("one worker", yard, 1, UNTRIED, -1, -1, 150, -1, 0, 0);
+        Due.counts("one worker", yard, 2, 0, 0, 1, 1, 1, 1);
+        Due.notes("one worker", yard);
+        Due.warnings("one worker", yard);
     }
 
     private static void tenActionsInOneTurn() {

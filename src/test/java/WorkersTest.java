@@ -1,21 +1,48 @@
 /** Promise 4: workers: how many there were, its bounds, and what they do in a run. */
 public final class WorkersTest {
     public static void main(String[] args) {
-        answers();
+        howManyThereWere();
+        isNot1To4();
+        refusedOnesChangeNothing();
         asManyAtOnce();
+        latestRunKeepsItsOwn();
         lowestFreeWorker();
         Due.finish();
     }
 
-    private static void answers() {
+    private static void howManyThereWere() {
         TimeoutYard yard = new TimeoutYard();
-        Due.same("workers(4)", () -> yard.workers(4), 1);
-        Due.same("workers(2)", () -> yard.workers(2), 4);
-        for (int bad : new int[] {0, -1, 5, Integer.MAX_VALUE, Integer.MIN_VALUE}) {
+        int[] all = {4, 4, 3, 2, 1, 1, 2, 4};
+        int before = 1;
+        for (int n : all) {
+            Due.same("workers(" + n + ")", () -> yard.workers(n), before);
+            before = n;
+        }
+    }
+
+    private static void isNot1To4() {
+        for (int n = 1; n <= 4; n++) {
+            int asked = n;
+            Due.same("workers(" + n + ") of a new one", () -> new TimeoutYard().workers(asked), 1);
+        }
+        for (int bad : Due.outside(1, 4)) {
+            Due.refused("workers(" + bad + ")", Due::inUse, yard -> yard.workers(bad), Due.ILLEGAL);
+            Due.refused("workers(" + bad + ") of a new one", TimeoutYard::new, yard -> yard.workers(bad), Due.ILLEGAL);
+        }
+    }
+
+    private static void refusedOnesChangeNothing() {
+        TimeoutYard yard = new TimeoutYard();
+        yard.workers(2);
+        for (int bad : Due.outside(1, 4)) {
             Due.thrown("workers(" + bad + ")", () -> yard.workers(bad), Due.ILLEGAL);
         }
+        for (int t = 0; t < 6; t++) {
+            yard.test(0, 0, 0, 0);
+        }
+        Due.same("run() behind refused ones", () -> yard.run(), 3);
+        Due.same("count(5) behind refused ones", () -> yard.count(5), 2);
         Due.same("workers(3) behind refused ones", () -> yard.workers(3), 2);
-        Due.same("workers(1)", () -> yard.workers(1), 3);
     }
 
     private static void asManyAtOnce() {
@@ -29,7 +56,20 @@ public final class WorkersTest {
             yard.workers(n);
             Due.same("run() with workers " + n, () -> yard.run(), ends[n]);
             Due.same("count(5) with workers " + n, () -> yard.count(5), n);
+            Due.looks("last of twelve, workers " + n, yard, 11, TimeoutYard.PASSED, -1, ends[n] - 3, ends[n] - 1, n - 1);
         }
+    }
+
+    private static void latestRunKeepsItsOwn() {
+        TimeoutYard yard = new TimeoutYard();
+        for (int t = 0; t < 4; t++) {
+            yard.test(0, 0, 0, 0);
+        }
+        yard.workers(4);
+        yard.run();
+        yard.workers(1);
+        Due.looks("workers change no run", yard, 3, TimeoutYard.PASSED, -1, 0, 0, 3, 0, 1);
+        Due.same("workers change no run: count(5)", () -> yard.count(5), 4);
     }
 
     private static void lowestFreeWorker() {
