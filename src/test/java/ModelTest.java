@@ -9,7 +9,7 @@ import java.util.Random;
  * fixed seed: guards are a stack that each thread carries, locks are counted, workers are objects.
  */
 public final class ModelTest {
-    private static final int YARDS = 6000;
+    private static final int YARDS = 20000;
 
     static final class Test {
         int number, program, timeout, reading, writing;
@@ -268,16 +268,18 @@ public final class ModelTest {
         Model model = new Model();
         // Some yards run short, others are full of waits.
         int waits = random.nextInt(3);
+        // Few programs are long ones that start one another: their threads overtake one another.
+        int programs = random.nextBoolean() ? 10 : 2 + random.nextInt(4);
         // Two runs with all that is asked about them stay within the 512 calls of an object.
         int runs = 1 + random.nextInt(2);
         for (int r = 0; r < runs; r++) {
             int actions = 5 + random.nextInt(40);
             for (int i = 0; i < actions; i++) {
-                addAction(yard, model, random, waits);
+                addAction(yard, model, random, waits, programs);
             }
             int tests = random.nextInt(7);
             for (int i = 0; i < tests; i++) {
-                addTest(yard, model, random);
+                addTest(yard, model, random, programs);
             }
             int n = 1 + random.nextInt(4);
             yard.workers(n);
@@ -291,24 +293,24 @@ public final class ModelTest {
         }
     }
 
-    private static void addAction(TimeoutYard yard, Model model, Random random, int waits) {
-        int p = random.nextInt(10);
+    private static void addAction(TimeoutYard yard, Model model, Random random, int waits, int programs) {
+        int p = random.nextInt(programs);
         int op = random.nextInt(3) < waits ? new int[] {0, 1, 2, 4, 5, 7, 8, 11}[random.nextInt(8)] : random.nextInt(12);
         int a = op <= 2 ? 1 + random.nextInt(random.nextBoolean() ? 20 : 4) : op == 3 || op == 6 ? random.nextInt(100)
-                : random.nextInt(10);
+                : op == 5 ? random.nextInt(programs) : random.nextInt(10);
         if (model.programs.get(p).size() < 10) {
             model.programs.get(p).add(new int[] {op, a});
             Due.same("action", () -> yard.action(p, op, a), model.programs.get(p).size());
         }
     }
 
-    private static void addTest(TimeoutYard yard, Model model, Random random) {
+    private static void addTest(TimeoutYard yard, Model model, Random random, int programs) {
         if (model.tests.size() == 12) {
             return;
         }
         Test t = new Test();
         t.number = model.tests.size();
-        t.program = random.nextInt(10);
+        t.program = random.nextInt(programs);
         t.timeout = random.nextInt(3) == 0 ? 0 : random.nextInt(random.nextBoolean() ? 51 : 8);
         t.reading = random.nextInt(16) & random.nextInt(16);
         t.writing = random.nextInt(16) & random.nextInt(16) & random.nextInt(16);
